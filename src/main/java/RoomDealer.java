@@ -6,7 +6,7 @@ public final class RoomDealer {
     public static final int NONE = -1;
 
     private static final int WRONG = -2;
-    private static final int BELOW_NONE = -3;
+    private static final int BELOW_ZERO = -3;
     private static final int FULL = -3;
     private static final int NO_ACT = -4;
     private static final int NOTHING_THERE = -5;
@@ -14,6 +14,7 @@ public final class RoomDealer {
     private static final int OTHER_WIDTH = -7;
     private static final int NO_NUMBERS = -8;
     private static final int RUNNING = -9;
+    private static final int NOT_RUNNING = -9;
 
     private static final int SLOTS = 4;
     private static final int WIDTHS = 4;
@@ -79,7 +80,7 @@ public final class RoomDealer {
             return WRONG;
         }
         if (n < 0) {
-            return BELOW_NONE;
+            return BELOW_ZERO;
         }
         slots[slot].lay(width, n);
         return 0;
@@ -245,7 +246,7 @@ public final class RoomDealer {
             return WRONG;
         }
         if (!together.runs) {
-            return RUNNING;
+            return NOT_RUNNING;
         }
         for (int i = 0; i < n && together.someGoOn(); i++) {
             together.tick();

@@ -1,16 +1,22 @@
 /** Random programs and terms, always the same ones, against PlainModel: promises 9 to 20. */
 public final class ModelTest {
     private static final Due due = new Due();
-    private static final int RUNS = 6000;
+    private static final int RUNS = 12000;
     private static final int[] cameOfKind = new int[9];
     private static int refusedLeakers = 0;
     private static int movedFromOthers = 0;
+    private static int lentBySleepers = 0;
     private static long state = 1;
 
     public static void main(String[] args) {
+        RoomDealer x = new RoomDealer();
         for (int seed = 1; seed <= RUNS; seed++) {
             state = seed * 7919L;
-            oneRun(seed);
+            // one object for several runs shows whether anything is left of the one ahead
+            if (seed % 4 == 0) {
+                x = new RoomDealer();
+            }
+            oneRun(seed, x);
         }
         everythingCame();
         due.end();
@@ -33,8 +39,8 @@ public final class ModelTest {
         return kind == 9 ? 0 : 1000 + pick(1, 14);
     }
 
-    private static void oneRun(int seed) {
-        RoomDealer x = new RoomDealer();
+    private static void oneRun(int seed, RoomDealer x) {
+        x.clear();
         PlainModel m = new PlainModel();
         addPrograms(x, m);
         setTerms(x, m);
@@ -54,6 +60,10 @@ public final class ModelTest {
                 due.is(run + "run", x.run(ticks), m.run(ticks));
                 sameState(run + "at " + m.now + ": ", x, m);
             }
+            if (pick(0, 9) == 0) {
+                due.is(run + "begin anew", x.begin(), m.begin());
+                sameState(run + "anew: ", x, m);
+            }
             due.is(run + "to the end", x.run(2000), m.run(2000));
             sameState(run + "at the end: ", x, m);
             for (int[] entry : m.log) {
@@ -61,6 +71,7 @@ public final class ModelTest {
             }
             refusedLeakers += m.refusedLeakers;
             movedFromOthers += m.movedFromOthers;
+            lentBySleepers += m.lentBySleepers;
         }
     }
 
@@ -81,7 +92,7 @@ public final class ModelTest {
         }
     }
 
-    /** ALL is mostly not far above the needs, so that room is short and has to move. */
+    /** ALL is mostly not far above the needs, or just that, so that room is short and has to move. */
     private static void setTerms(RoomDealer x, PlainModel m) {
         PlainModel.Terms t = m.terms;
         t.step = pick(1, 12);
@@ -96,6 +107,12 @@ public final class ModelTest {
         t.reserve = Math.min(t.reserve, t.all);
         t.each = pick(1, pick(0, 1) == 0 ? 5 : 25);
         t.swing = pick(0, 9);
+        if (pick(0, 1) == 0) {
+            t.reserve = 0;
+            t.all = t.step * Math.max(1, Math.min(64, needed));
+            t.each = pick(4, 30);
+            t.swing = 9;
+        }
         due.is("terms", x.terms(t.step, t.all, t.reserve, t.each, t.swing), 0);
     }
 
@@ -145,8 +162,9 @@ public final class ModelTest {
             due.is("enough entries of kind " + kind, cameOfKind[kind] >= 50, true);
         }
         System.out.println(all + "; leakers refused: " + refusedLeakers + "; steps moved from others: "
-                + movedFromOthers);
+                + movedFromOthers + "; lent by sleepers: " + lentBySleepers);
         due.is("leakers were refused", refusedLeakers >= 50, true);
         due.is("steps moved from others", movedFromOthers >= 50, true);
+        due.is("lent by sleepers", lentBySleepers >= 50, true);
     }
 }

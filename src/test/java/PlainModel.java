@@ -63,7 +63,6 @@ final class PlainModel {
 
         void die(int ago) {
             if (made.size() >= ago) {
-                int cells = made.get(made.size() - ago);
                 made.set(made.size() - ago, 0);
             }
         }
@@ -89,6 +88,7 @@ final class PlainModel {
     int now, pool;
     int refusedLeakers = 0;
     int movedFromOthers = 0;
+    int lentBySleepers = 0;
 
     static int time(Program p, int room) {
         Life l = new Life(p, 0, room);
@@ -385,6 +385,7 @@ final class PlainModel {
                 if (lent > 0) {
                     give(other, lent);
                     missing -= lent;
+                    lentBySleepers++;
                 }
             }
         }
