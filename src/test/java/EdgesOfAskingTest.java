@@ -26,6 +26,7 @@ public final class EdgesOfAskingTest {
         makeIsOverAtOnce();
         poolIsJustEnough();
         poolIsAStepTooLittle();
+        poolGoesAheadOfSleepers();
         poolAndSpareAreJustEnough();
         whoEndedHasNoSpare();
         leakerWithinItsPart();
@@ -308,6 +309,20 @@ public final class EdgesOfAskingTest {
         due.same("none are there", logFrom(withPool(0), 6), "6 1 3 1; 6 1 3 1; 6 1 3 1; 6 0 1 3; 6 0 6 6");
     }
 
+    private static void poolGoesAheadOfSleepers() {
+        due.sentence("IV: from the POOL as far as it goes; then from those that are ASLEEP");
+        for (int left = 2; left <= 3; left++) {
+            RoomDealer x = asker(13 + 4 + left, 3, 6);
+            taker(x);
+            sleeper(x, 4, 0);
+            endsIn(x, 5, left);
+            x.begin();
+            x.run(6);
+            due.same(left + " are in the POOL", logFrom(x, 6),
+                    left == 2 ? "6 2 3 1; 6 0 1 3; 6 0 6 6" : "6 0 1 3; 6 0 6 6");
+        }
+    }
+
     /**
      * Less can't be: a PROGRAM was dealt its NEED, so what all others KEEP leaves that for it. So
      * here the POOL is empty, and the others are left with what they KEEP.
@@ -333,11 +348,10 @@ public final class EdgesOfAskingTest {
         due.same("all is of PROGRAM 0", logFrom(y, 6), "6 0 3 1; 6 0 3 1; 6 0 3 1; 6 1 1 3");
     }
 
-    /** What 0 had went to the POOL, where the taker got it. */
     private static void whoEndedHasNoSpare() {
         due.sentence("IV: SPARE (0 if it ENDED, FAILED)");
-        RoomDealer x = Due.with(1, 15, 0, 4, 5);
-        endsIn(x, 1, 2);
+        RoomDealer x = Due.with(1, 13, 0, 4, 3);
+        endsIn(x, 1, 0);
         Due.program(x, Due.MARK, 1, 0, 1005, 6);
         takerWithFloor(x);
         x.begin();

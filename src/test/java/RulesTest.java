@@ -21,6 +21,7 @@ public final class RulesTest {
 
     public static void main(String[] args) throws Exception {
         face();
+        sizes();
         text();
         noCallThrows();
         due.end();
@@ -64,6 +65,35 @@ public final class RulesTest {
                 due.is(c.getName() + "." + f.getName() + " is no changing static one", still, true);
             }
         }
+    }
+
+    /** Rules 1 and 11. */
+    private static void sizes() {
+        Set<String> open = new TreeSet<>();
+        for (Method m : RoomDealer.class.getDeclaredMethods()) {
+            if (Modifier.isPublic(m.getModifiers())) {
+                open.add(m.getName());
+            }
+        }
+        due.is("twelve classes at most", RoomDealer.class.getDeclaredClasses().length < 12, true);
+        sizesOf(RoomDealer.class, open);
+        for (Class<?> c : RoomDealer.class.getDeclaredClasses()) {
+            sizesOf(c, open);
+        }
+    }
+
+    private static void sizesOf(Class<?> c, Set<String> open) {
+        for (Method m : c.getDeclaredMethods()) {
+            String name = c.getName() + "." + m.getName();
+            due.is(name + " has seven parameters at most", m.getParameterCount() <= 7, true);
+            boolean hidden = Modifier.isPrivate(m.getModifiers());
+            due.is(name + " has a name of its own", !hidden || !open.contains(m.getName()), true);
+        }
+        int fields = 0;
+        for (Field f : c.getDeclaredFields()) {
+            fields += Modifier.isStatic(f.getModifiers()) ? 0 : 1;
+        }
+        due.is(c.getName() + " has twenty fields at most", fields <= 20, true);
     }
 
     private static void text() throws Exception {
