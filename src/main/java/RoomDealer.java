@@ -72,7 +72,7 @@ public final class RoomDealer {
         }
         agreed = new Terms();
         dealer = new Dealer(agreed);
-        together = new Together(agreed);
+        together = new Together(agreed, programs);
     }
 
     public int row(int slot, int width, int n) {
@@ -231,7 +231,7 @@ public final class RoomDealer {
         if (sum == NONE || programCount == 0) {
             return false;
         }
-        together.start(programs, programCount, dealer.shares);
+        together.start(programCount, dealer.shares);
         return true;
     }
 
@@ -668,7 +668,7 @@ public final class RoomDealer {
     private static final class Runner {
         final Things things = new Things();
         final int number;
-        Program program;
+        final Program program;
         int how;
         int room;
         int used;
@@ -684,12 +684,12 @@ public final class RoomDealer {
         int liveAtRoundEnd;
         int rises;
 
-        Runner(int itsNumber) {
+        Runner(int itsNumber, Program itsProgram) {
             number = itsNumber;
+            program = itsProgram;
         }
 
-        void start(Program p, int share) {
-            program = p;
+        void start(int share) {
             things.forget();
             how = READY;
             room = share;
@@ -866,14 +866,14 @@ public final class RoomDealer {
         int now = 0;
         int pool = 0;
 
-        Together(Terms agreed) {
+        Together(Terms agreed, Program[] programs) {
             terms = agreed;
             for (int i = 0; i < MOST_PROGRAMS; i++) {
-                runners[i] = new Runner(i);
+                runners[i] = new Runner(i, programs[i]);
             }
         }
 
-        void start(Program[] programs, int howMany, int[] shares) {
+        void start(int howMany, int[] shares) {
             story.forget();
             runs = true;
             now = 0;
@@ -881,7 +881,7 @@ public final class RoomDealer {
             pool = terms.all;
             for (int i = 0; i < count; i++) {
                 int share = shares[i] * terms.step;
-                runners[i].start(programs[i], share);
+                runners[i].start(share);
                 pool -= share;
             }
         }

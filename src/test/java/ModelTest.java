@@ -2,7 +2,9 @@
 public final class ModelTest {
     private static final Due due = new Due();
     private static final int RUNS = 12000;
+    private static final int GREAT_RUNS = 3000;
     private static final int[] cameOfKind = new int[9];
+    private static int begunOnes = 0;
     private static int refusedLeakers = 0;
     private static int movedFromOthers = 0;
     private static int lentBySleepers = 0;
@@ -12,14 +14,21 @@ public final class ModelTest {
         PlainModel ahead = null;
         for (int seed = 1; seed <= RUNS; seed++) {
             state = seed * 7919L;
-            PlainModel m = randomModel();
-            // two objects, as one is not promised to answer more than 512 calls
-            compareAnswers("seed " + seed + ": ", m);
-            compareLog("seed " + seed + ", log: ", m, ahead);
-            ahead = m;
+            ahead = compare("seed " + seed, randomModel(), ahead);
+        }
+        for (int seed = 1; seed <= GREAT_RUNS; seed++) {
+            state = seed * 15485863L;
+            ahead = compare("great seed " + seed, greatModel(), ahead);
         }
         everythingCame();
         due.end();
+    }
+
+    /** By two objects, as one is not promised to answer more than 512 calls. */
+    private static PlainModel compare(String run, PlainModel m, PlainModel ahead) {
+        compareAnswers(run + ": ", m);
+        compareLog(run + ", log: ", m, ahead);
+        return m;
     }
 
     /** From low to high, both of them too. */
@@ -54,14 +63,45 @@ public final class ModelTest {
             p.floor = pick(0, 2) == 0 ? pick(0, 30) : 0;
             m.programs.add(p);
         }
-        pickTerms(m);
+        pickTerms(m, pick(1, 12));
+        return m;
+    }
+
+    private static int greatAct(int sleepiness) {
+        int kind = pick(0, 9 + sleepiness);
+        if (kind <= 4) {
+            return pick(1, 99);
+        }
+        if (kind <= 8) {
+            return -pick(1, pick(0, 4) == 0 ? 59 : 5);
+        }
+        return kind == 9 ? 0 : 1000 + pick(1, 200);
+    }
+
+    /** Up to the sizes that the document allows, as far as 512 calls can lay them. */
+    private static PlainModel greatModel() {
+        PlainModel m = new PlainModel();
+        int n = pick(1, 6);
+        int sleepiness = pick(0, 3);
+        for (int i = 0; i < n; i++) {
+            PlainModel.Program p = new PlainModel.Program();
+            p.row = new int[n == 1 ? pick(30, 60) : pick(1, 80 / n)];
+            for (int j = 0; j < p.row.length; j++) {
+                p.row[j] = greatAct(sleepiness);
+            }
+            p.copy = pick(0, 1) == 0;
+            p.rounds = pick(1, pick(0, 1) == 0 ? 3 : 40);
+            p.floor = pick(0, 3) == 0 ? pick(0, 1000) : 0;
+            m.programs.add(p);
+        }
+        pickTerms(m, pick(0, 1) == 0 ? 64 : pick(20, 63));
         return m;
     }
 
     /** ALL is mostly not far above the needs, or just that, so that room is short and has to move. */
-    private static void pickTerms(PlainModel m) {
+    private static void pickTerms(PlainModel m, int step) {
         PlainModel.Terms t = m.terms;
-        t.step = pick(1, 12);
+        t.step = step;
         t.all = 64 * t.step;
         int needed = 0;
         for (PlainModel.Program p : m.programs) {
@@ -94,10 +134,8 @@ public final class ModelTest {
         RoomDealer x = new RoomDealer();
         lay(x, m);
         askOfEach(run, x, m);
-        if (m.programs.size() <= 3) {
-            due.is(run + "best", x.best(), m.best());
-            sameShares(run + "best", x, m);
-        }
+        due.is(run + "best", x.best(), m.best());
+        sameShares(run + "best", x, m);
         due.is(run + "deal", x.deal(), m.deal());
         sameShares(run + "deal", x, m);
         boolean begun = m.begin();
@@ -105,6 +143,7 @@ public final class ModelTest {
         if (!begun) {
             return;
         }
+        begunOnes++;
         for (int part = 0; part < 3; part++) {
             int ticks = pick(1, part < 2 ? 12 : 150);
             due.is(run + "run", x.run(ticks), m.run(ticks));
@@ -204,7 +243,7 @@ public final class ModelTest {
             all.append(' ').append(cameOfKind[kind]);
             due.is("enough entries of kind " + kind, cameOfKind[kind] >= 50, true);
         }
-        System.out.println(all + "; leakers refused: " + refusedLeakers + "; steps moved from others: "
+        System.out.println("begun: " + begunOnes + "; " + all + "; leakers refused: " + refusedLeakers + "; steps moved from others: "
                 + movedFromOthers + "; lent by sleepers: " + lentBySleepers);
         due.is("leakers were refused", refusedLeakers >= 50, true);
         due.is("steps moved from others", movedFromOthers >= 50, true);

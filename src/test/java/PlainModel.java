@@ -1,5 +1,7 @@
 import java.util.ArrayList;
+import java.util.HashMap;
 import java.util.List;
+import java.util.Map;
 
 /**
  * The document's Terms II to IV again, word by word and by search where the class computes: rooms
@@ -18,6 +20,8 @@ final class PlainModel {
         boolean copy;
         int rounds;
         int floor;
+        /** TIME by ROOM, as far as it was asked for: it is asked for again and again. */
+        final Map<Integer, Integer> times = new HashMap<>();
 
         int holds(int room) {
             return copy ? room / 2 : room;
@@ -91,6 +95,10 @@ final class PlainModel {
     int lentBySleepers = 0;
 
     static int time(Program p, int room) {
+        return p.times.computeIfAbsent(room, r -> timeAnew(p, r));
+    }
+
+    private static int timeAnew(Program p, int room) {
         Life l = new Life(p, 0, room);
         int ticks = 0;
         while (l.actsOver < p.row.length * p.rounds) {

@@ -22,6 +22,7 @@ public final class RulesTest {
     public static void main(String[] args) throws Exception {
         face();
         sizes();
+        noReferenceIsNull();
         text();
         noCallThrows();
         due.end();
@@ -94,6 +95,44 @@ public final class RulesTest {
             fields += Modifier.isStatic(f.getModifiers()) ? 0 : 1;
         }
         due.is(c.getName() + " has twenty fields at most", fields <= 20, true);
+    }
+
+    /** Rule 7: a reference that is set for good, as its object is made, need not be looked at again. */
+    private static void noReferenceIsNull() throws Exception {
+        RoomDealer x = new RoomDealer();
+        referencesOf(RoomDealer.class);
+        for (Class<?> c : RoomDealer.class.getDeclaredClasses()) {
+            referencesOf(c);
+        }
+        due.is("references that a new object has as null", nullsIn(x, 0), 0);
+    }
+
+    private static void referencesOf(Class<?> c) {
+        for (Field f : c.getDeclaredFields()) {
+            boolean still = f.getType().isPrimitive() || Modifier.isFinal(f.getModifiers());
+            due.is(c.getName() + "." + f.getName() + " is set for good", still, true);
+        }
+    }
+
+    private static int nullsIn(Object o, int depth) throws Exception {
+        if (o == null) {
+            return 1;
+        }
+        due.is("parts of parts have an end", depth <= 8, true);
+        int nulls = 0;
+        if (o instanceof Object[] row) {
+            for (Object part : row) {
+                nulls += nullsIn(part, depth + 1);
+            }
+        } else if (!o.getClass().isArray()) {
+            for (Field f : o.getClass().getDeclaredFields()) {
+                if (!f.getType().isPrimitive()) {
+                    f.setAccessible(true);
+                    nulls += nullsIn(f.get(o), depth + 1);
+                }
+            }
+        }
+        return nulls;
     }
 
     private static void text() throws Exception {
